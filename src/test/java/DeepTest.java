@@ -1,6 +1,7 @@
 /** Graphs with so many ways that a search which keeps nothing would never end, and the deepest ones. */
 public final class DeepTest {
     private static final int SECONDS = 60;
+    private static final int MOVES = 7;
     private static volatile int wrong = 0;
 
     private static void due(String call, int got, int want) {
@@ -10,30 +11,32 @@ public final class DeepTest {
         }
     }
 
-    /** Each state before the last goes by all its moves to the twelve next ones, or the last. */
-    private static GameGraph ladder(boolean firstAlways) {
+    /** Each state before the last goes to the next ones, or the last: as many as 512 calls allow to lay out. */
+    private static GameGraph ladder(boolean firstAlways, int goal) {
         GameGraph x = new GameGraph();
         x.states(60);
         for (int n = 0; n < 59; n++) {
             boolean firstChooses = firstAlways || n % 2 == 0;
-            x.open(n, firstChooses ? 12 : 1, firstChooses ? 1 : 12);
-            for (int j = 0; j < 12; j++) {
+            x.open(n, firstChooses ? MOVES : 1, firstChooses ? 1 : MOVES);
+            for (int j = 0; j < MOVES; j++) {
                 x.link(n, j, Math.min(59, n + 1 + j));
             }
         }
+        x.end(59, goal, 100 - goal);
         return x;
     }
 
     private static void checkLadders() {
         for (int goal = 0; goal <= 100; goal += 10) {
-            GameGraph x = ladder(goal % 20 == 0);
-            x.end(59, goal, 100 - goal);
-            for (int n = 0; n < 60; n++) {
-                due("ladder: value(" + n + ")", x.value(n), goal);
-                due("ladder: best(" + n + ")", x.best(n), n == 59 ? -1 : 0);
-                due("ladder: length(" + n + ")", x.length(n), 59 - n);
+            for (int from = 0; from < 60; from += 12) {
+                GameGraph x = ladder(goal % 20 == 0, goal);
+                due("ladder: reached()", x.reached(), 60);
+                for (int n = from; n < from + 12; n++) {
+                    due("ladder: value(" + n + ")", x.value(n), goal);
+                    due("ladder: best(" + n + ")", x.best(n), n == 59 ? -1 : 0);
+                    due("ladder: length(" + n + ")", x.length(n), 59 - n);
+                }
             }
-            due("ladder: reached()", x.reached(), 60);
         }
     }
 

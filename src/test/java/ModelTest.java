@@ -5,8 +5,9 @@ import java.util.Random;
  * anything. The seeds are written out, so that each run is the same every time.
  */
 public final class ModelTest {
-    private static final int RUNS = 3000;
-    private static final int CALLS = 200;
+    private static final int RUNS = 10000;
+    private static final int CHANGES = 200;
+    private static final int MOST_CALLS = 512;
     private static int wrong = 0;
     private static int valued = 0;
     private static final int[] defectsSeen = new int[7];
@@ -229,13 +230,19 @@ public final class ModelTest {
         final Random random;
         final GameGraph graph = new GameGraph();
         final Model model = new Model();
+        int calls = 0;
 
         Run(int seed) {
             this.seed = seed;
             random = new Random(seed);
         }
 
+        /** What an object answers to more calls is free, so a run that has had them all goes on without any. */
         void call(int call, int a, int b, int c) {
+            if (calls == MOST_CALLS) {
+                return;
+            }
+            calls++;
             String got;
             String want;
             try {
@@ -288,7 +295,7 @@ public final class ModelTest {
             call(5, 0, 0, 0);
             call(6, 0, 0, 0);
             call(6, 1, 0, 0);
-            defectsSeen[model.defect(0)]++;
+            defectsSeen[model.defect(0)] += calls < MOST_CALLS ? 1 : 0;
             int states = model.goals.length;
             int start = from(0, states - 1);
             int first = from(7, 9);
@@ -319,7 +326,7 @@ public final class ModelTest {
         void go() {
             layOut(from(1, seed % 3 == 0 ? 60 : 10));
             askAll();
-            for (int i = 0; i < CALLS; i++) {
+            for (int i = 0; i < CHANGES; i++) {
                 any();
                 if (from(0, 15) == 0) {
                     askAll();
