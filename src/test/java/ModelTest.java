@@ -267,27 +267,39 @@ public final class ModelTest {
             return least + random.nextInt(most - least + 1);
         }
 
-        /** A graph whose moves go to greater numbers, mostly without a defect. */
+        /** A graph whose moves go on to later places, mostly without a defect. */
         void layOut(int states) {
             call(0, states, 0, 0);
+            int[] numbers = numbersOfPlaces(states);
             int kindOfGoals = from(0, 2);
-            for (int n = 0; n < states; n++) {
-                if (n + 1 < states && from(0, 9) < 7) {
-                    layOutOpen(n, states);
+            for (int place = 0; place < states; place++) {
+                if (place + 1 < states && from(0, 9) < 7) {
+                    layOutOpen(place, numbers);
                 } else {
                     int goal = kindOfGoals == 0 ? from(0, 100) : kindOfGoals == 1 ? from(48, 52) : 100 * from(0, 1);
-                    call(1, n, goal, 100 - goal);
+                    call(1, numbers[place], goal, 100 - goal);
                 }
             }
         }
 
-        void layOutOpen(int n, int states) {
+        /** In every other run the numbers behind state 0 are mixed, so that moves go to greater and to lesser ones. */
+        int[] numbersOfPlaces(int states) {
+            int[] numbers = new int[states];
+            for (int place = 0; place < states; place++) {
+                int other = seed % 2 == 0 || place == 0 ? place : from(1, place);
+                numbers[place] = numbers[other];
+                numbers[other] = place;
+            }
+            return numbers;
+        }
+
+        void layOutOpen(int place, int[] numbers) {
             int number = from(1, from(1, 12));
             boolean firstChooses = random.nextBoolean();
-            call(2, n, firstChooses ? number : 1, firstChooses ? 1 : number);
-            int farthest = Math.min(states - 1, n + from(1, 12));
+            call(2, numbers[place], firstChooses ? number : 1, firstChooses ? 1 : number);
+            int farthest = Math.min(numbers.length - 1, place + from(1, 12));
             for (int j = 0; j < number; j++) {
-                call(3, n, j, from(n + 1, farthest));
+                call(3, numbers[place], j, numbers[from(place + 1, farthest)]);
             }
         }
 
